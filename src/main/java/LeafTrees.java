@@ -491,7 +491,7 @@ public final class LeafTrees {
             return symbol >= 0 && symbol < acts ? entries[symbol] : 0;
         }
 
-        /** The place behind the tree that begins at a place; NONE: the row ends before the tree does. */
+        /** The place behind the tree that begins at a place; above the row's length if the row ends before it does. */
         int endOf(Row row, int from) {
             int wanted = 1;
             for (int i = Math.max(from, 0); i < row.length; i++) {
@@ -500,7 +500,7 @@ public final class LeafTrees {
                     return i + 1;
                 }
             }
-            return NONE;
+            return row.length + 1;
         }
 
         boolean isTree(Row row) {
@@ -724,7 +724,7 @@ public final class LeafTrees {
         }
 
         private boolean mayOverlap(World world) {
-            if (!world.isRule(outer) || !world.isRule(inner) || place == 0 && outer >= inner) {
+            if (!world.isRule(outer) || !world.isRule(inner) || (place == 0 && outer >= inner)) {
                 return false;
             }
             Row left = world.rules[outer].left;
@@ -872,7 +872,7 @@ public final class LeafTrees {
         private void linkEntries(World world, Row left, int place, int node) {
             int below = place + 1;
             int entries = Math.min(world.entriesOf(left.symbols[place]), MOST_ENTRIES);
-            for (int k = 0; k < entries && below >= 0 && below < left.length; k++) {
+            for (int k = 0; k < entries && below < left.length; k++) {
                 needs[k][node] = bitAt[below];
                 below = world.endOf(left, below);
             }
@@ -902,7 +902,7 @@ public final class LeafTrees {
             for (int first = 1; first < leaves; first++) {
                 for (int second = 1; second <= leaves - first; second++) {
                     int third = leaves - first - second;
-                    if (third > 0 == entries > 2) {
+                    if ((third > 0) == (entries > 2)) {
                         found += join(act, leaves, tallies[first], tallies[second], tallies[third]);
                     }
                 }
