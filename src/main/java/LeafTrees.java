@@ -230,9 +230,19 @@ public final class LeafTrees {
     }
 
     public int closes() {
-        if (!firstOpenKnown) {
-            firstOpen = findFirstOpen();
-            firstOpenKnown = true;
+        if (firstOpenKnown) {
+            return firstOpen;
+        }
+        firstOpen = NONE;
+        firstOpenKnown = true;
+        peaks.restart();
+        for (int i = 0; i < Peaks.SPOTS && firstOpen == NONE && peaks.next(world); i++) {
+            int meeting = rewriter.meet(world, peaks);
+            if (meeting == SPENT) {
+                firstOpen = SPENT;
+            } else if (meeting == 0) {
+                firstOpen = i;
+            }
         }
         return firstOpen;
     }
@@ -340,20 +350,6 @@ public final class LeafTrees {
             census.run(world, dualMany);
             dualKnown = true;
         }
-    }
-
-    private int findFirstOpen() {
-        peaks.restart();
-        for (int i = 0; i < Peaks.SPOTS && peaks.next(world); i++) {
-            int ends = rewriter.meet(world, peaks);
-            if (ends == SPENT) {
-                return SPENT;
-            }
-            if (ends == 0) {
-                return i;
-            }
-        }
-        return NONE;
     }
 
     /** Symbols in order; a tree, or not. */

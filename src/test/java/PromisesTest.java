@@ -32,6 +32,7 @@ public final class PromisesTest {
         howMany();
         overlaps();
         overlap();
+        overlapFarBack();
         closes();
         turned();
         dual();
@@ -451,6 +452,9 @@ public final class PromisesTest {
         addRule(z, comb('0', 4), chain("0000"));
         long[] four = {1, 1, 2, 5, 13, 36};
         for (int n = 1; n <= 6; n++) due(16, "a left tree of size 4", z.howMany(n), four[n - 1]);
+        LeafTrees t = world(3);
+        addNought(t, "0..0...");
+        due(16, "at the third entry", t.howMany(5), 2);
         addNought(z, "0..");
         due(16, "a leaf alone", z.howMany(1), 1);
         due(16, "no more", z.howMany(6), 0);
@@ -497,6 +501,15 @@ public final class PromisesTest {
         due(18, "BAD before NONE", x.overlap(MAX, 10), -2);
         due(18, "not so many", x.overlap(MAX, 5), -1);
         dueRow(18, "not so many", x, 5, "000....");
+    }
+
+    /** Four acts of three entries, each at the last entry of the one before: their places are the farthest back. */
+    private static void overlapFarBack() {
+        LeafTrees x = world(3);
+        addNought(x, "0..0..0..0...");
+        due(17, "far back", x.overlaps(), 3);
+        due(18, "far back", x.overlap(2, 0), 9);
+        dueRow(18, "far back", x, 0, "0..".repeat(7) + ".");
     }
 
     private static void closes() {
@@ -597,6 +610,7 @@ public final class PromisesTest {
         x.act(3);
         due(21, "an act of three entries", x.dual(1), -3);
         LeafTrees y = world(2, 2, 2, 2);
+        for (int n = 1; n <= 6; n++) due(21, "four acts, no rules", y.dual(n), n == 1 ? 1 : n == 2 ? 4 : 0);
         addNought(y, "03...");
         addNought(y, "3.0..");
         addNought(y, "30...");
