@@ -4,9 +4,6 @@ import java.util.Random;
 public final class AgainstModelTest {
     private static final int CALLS = 512;
     private static final int[] ODD = {-1, -2, 10, 11, 15, 60, 100, Integer.MAX_VALUE, Integer.MIN_VALUE};
-    private static final String[] NAMES = {"act", "put", "empty", "at", "about", "graft", "same", "rule", "nought",
-        "unrule", "side", "matches", "step", "normal", "howMany", "overlaps", "overlap", "closes", "turned", "dual",
-        "count", "digest"};
 
     private final Random random;
     private final int run;
@@ -37,67 +34,13 @@ public final class AgainstModelTest {
         if (wrongRuns != 0) System.exit(1);
     }
 
-    private static long onReal(LeafTrees x, int op, int a, int b, int c, int d) {
-        switch (op) {
-            case 0: return x.act(a);
-            case 1: return x.put(a, b);
-            case 2: return x.empty(a);
-            case 3: return x.at(a, b);
-            case 4: return x.about(a, b);
-            case 5: return x.graft(a, b, c, d);
-            case 6: return x.same(a, b);
-            case 7: return x.rule(a, b);
-            case 8: return x.nought(a);
-            case 9: return x.unrule();
-            case 10: return x.side(a, b, c);
-            case 11: return x.matches(a, b);
-            case 12: return x.step(a);
-            case 13: return x.normal(a);
-            case 14: return x.howMany(a);
-            case 15: return x.overlaps();
-            case 16: return x.overlap(a, b);
-            case 17: return x.closes();
-            case 18: return x.turned(a);
-            case 19: return x.dual(a);
-            case 20: return x.count(a);
-            default: return x.digest();
-        }
-    }
-
-    private static long onModel(PlainModel x, int op, int a, int b, int c, int d) {
-        switch (op) {
-            case 0: return x.act(a);
-            case 1: return x.put(a, b);
-            case 2: return x.empty(a);
-            case 3: return x.at(a, b);
-            case 4: return x.about(a, b);
-            case 5: return x.graft(a, b, c, d);
-            case 6: return x.same(a, b);
-            case 7: return x.rule(a, b);
-            case 8: return x.nought(a);
-            case 9: return x.unrule();
-            case 10: return x.side(a, b, c);
-            case 11: return x.matches(a, b);
-            case 12: return x.step(a);
-            case 13: return x.normal(a);
-            case 14: return x.howMany(a);
-            case 15: return x.overlaps();
-            case 16: return x.overlap(a, b);
-            case 17: return x.closes();
-            case 18: return x.turned(a);
-            case 19: return x.dual(a);
-            case 20: return x.count(a);
-            default: return x.digest();
-        }
-    }
-
     private void call(int op, int... args) {
         if (wrong || calls >= CALLS) return;
         int[] four = java.util.Arrays.copyOf(args, 4);
-        long want = onModel(model, op, four[0], four[1], four[2], four[3]);
-        long got = onReal(real, op, four[0], four[1], four[2], four[3]);
+        long want = Calls.onModel(model, op, four);
+        long got = Calls.onReal(real, op, four);
         calls++;
-        told.append(NAMES[op]).append(java.util.Arrays.toString(args)).append(" ");
+        told.append(Calls.NAMES[op]).append(java.util.Arrays.toString(args)).append(" ");
         if (got != want) complain("answered " + got + ", due is " + want);
         else if (real.digest() != model.digest()) complain("left another state than is due");
     }

@@ -1,17 +1,5 @@
 /** For each promise of the document: ordinary inputs, the edges it names, and wrong inputs. */
-public final class PromisesTest {
-    private static final int MAX = Integer.MAX_VALUE, MIN = Integer.MIN_VALUE;
-    private static int wrong = 0;
-    private static int asked = 0;
-
-    private static void due(int promise, String what, long got, long want) {
-        asked++;
-        if (got != want) {
-            wrong++;
-            System.out.println("promise " + promise + ", " + what + ": answered " + got + ", due is " + want);
-        }
-    }
-
+public final class PromisesTest extends Checks {
     public static void main(String[] args) {
         newObject();
         act();
@@ -38,59 +26,7 @@ public final class PromisesTest {
         dual();
         count();
         digest();
-        System.out.println(wrong == 0 ? asked + " answers are as due" : wrong + " answers are not as due");
-        if (wrong != 0) System.exit(1);
-    }
-
-    // ---- helpers
-
-    private static LeafTrees world(int... entries) {
-        LeafTrees x = new LeafTrees();
-        for (int e : entries) x.act(e);
-        return x;
-    }
-
-    /** '.' is a leaf, a digit an act. */
-    private static void write(LeafTrees x, int row, String symbols) {
-        x.empty(row);
-        for (char c : symbols.toCharArray()) x.put(row, c == '.' ? -1 : c - '0');
-    }
-
-    private static String read(LeafTrees x, int row) {
-        StringBuilder symbols = new StringBuilder();
-        for (int i = 0; i < x.about(row, 0); i++) symbols.append(x.at(row, i) < 0 ? "." : "" + x.at(row, i));
-        return symbols.toString();
-    }
-
-    private static void dueRow(int promise, String what, LeafTrees x, int row, String want) {
-        String got = read(x, row);
-        asked++;
-        if (!got.equals(want)) {
-            wrong++;
-            System.out.println("promise " + promise + ", " + what + ": the row is " + got + ", due is " + want);
-        }
-    }
-
-    private static int addRule(LeafTrees x, String left, String right) {
-        write(x, 9, left);
-        write(x, 8, right);
-        return x.rule(9, 8);
-    }
-
-    private static int addNought(LeafTrees x, String left) {
-        write(x, 9, left);
-        return x.nought(9);
-    }
-
-    /** A chain of acts of two entries, each at the second entry of the one before. */
-    private static String chain(String acts) {
-        StringBuilder symbols = new StringBuilder();
-        for (char c : acts.toCharArray()) symbols.append(c).append('.');
-        return symbols.append('.').toString();
-    }
-
-    private static String comb(char act, int size) {
-        return (act + "").repeat(size) + ".".repeat(size + 1);
+        finish();
     }
 
     // ---- the promises
