@@ -262,6 +262,10 @@ public final class RowBoundariesTest extends Checks {
                 due(6, "row " + row + ", " + what, x.about(row, what), want[row][what]);
             }
         }
+        write(x, 4, "00..0..");
+        due(6, "acts side by side are not one below the other", x.about(4, 4), 2);
+        write(x, 5, "10..0..0..");
+        due(6, "three side by side", x.about(5, 4), 2);
         x.put(1, -1);
         due(6, "a leaf too many, full", x.about(1, 0), 60);
         due(6, "a leaf too many, full", x.about(1, 1), 0);
